@@ -55,7 +55,7 @@ public final class OneTrip {
         row = letters;
         clients = new Client[CLIENTS];
         for (int i = 0; i < clients.length; i++) {
-            clients[i] = new Client(i);
+            clients[i] = new Client();
         }
         backups = new Backup[faults];
         witnesses = new Witness[faults];
@@ -497,7 +497,7 @@ public final class OneTrip {
     private static final class Letter {
         private final int kind;
         private final int epoch;
-        /** The one at the other end from the master; of a witness and a client, the reader. */
+        /** The number of its reader or, of a letter to a master, of its sender. */
         private final int who;
         private final Operation op;
         private final int number;
@@ -576,7 +576,6 @@ public final class OneTrip {
     }
 
     private static final class Client {
-        private final int id;
         private int epoch;
         private Operation latest;
         /** A bit for each witness that has accepted the latest operation. */
@@ -584,10 +583,6 @@ public final class OneTrip {
         private boolean answered;
         private int answer;
         private int finishedByAccepts;
-
-        private Client(int id) {
-            this.id = id;
-        }
 
         private boolean isBusy() {
             return latest != null && !latest.isDone();
@@ -698,7 +693,7 @@ public final class OneTrip {
             }
         }
 
-        /** The next record in a new master's order, null behind the last; null asks for the first. */
+        /** The next one in a new master's order, null behind the last; null asks for the first. */
         private Operation recordBehind(Operation last) {
             Operation next = null;
             for (int i = 0; i < places.length; i++) {

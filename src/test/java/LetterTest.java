@@ -395,6 +395,13 @@ public final class LetterTest {
         Check.same("3 told", x.client(3, 2), 13);
         Check.same("0 has an answer only", x.client(0, 5), 1);
         Check.same("audit", x.audit(), 0);
+        x.ask(2, PUT, 3, 9);
+        x.deliver(0);
+        x.sync(0);
+        x.deliver(2);
+        x.deliver(2);
+        Check.letters("synced by the next: not answered again", x,
+                1, 0, 0, 2, 2, 0, 2, 2, 8, 0, 0, 5);
     }
 
     private static void ackConfirmsGetsByTheCount() {
@@ -663,6 +670,13 @@ public final class LetterTest {
         Check.deliverAll(x);
         Check.same("done", x.client(1, 1), 1);
         Check.same("not by accepts", x.client(1, 6), 0);
+
+        OneTrip old = small();
+        old.ask(0, PUT, 1, 5);
+        old.decide(0, 0);
+        old.deliver(1);
+        old.deliver(1);
+        one("to the master of the epoch that it knows", old, 1, SYNCNOW, 0, 0, 1);
     }
 
     private static void syncNowAtAMaster() {

@@ -1,7 +1,7 @@
 import java.util.ArrayList;
 import java.util.List;
 
-/** Random runs of 512 calls, each call's answer and all that the object shows beside the model's. */
+/** Random runs of 512 calls: each answer, and all that the object shows, beside the model's. */
 public final class RandomRunsTest {
     private static long seed;
 
@@ -54,7 +54,8 @@ public final class RandomRunsTest {
             case 1 -> new int[] {20, 4, 6, 20, 60, 2, 4, 4, 1, 2, 1};
             case 2 -> new int[] {20, 4, 8, 10, 80, 1, 8, 8, 0, 2, 1};
             case 3 -> new int[] {20, 20, 10, 2, 20, 1, 20, 20, 1, 1, 1};
-            default -> new int[] {20, 4, 10, 40, 40, 1, 2, 6, 2, 3, 1};
+            case 4 -> new int[] {20, 4, 10, 40, 40, 1, 2, 6, 2, 3, 1};
+            default -> new int[] {20, 1, 8, 90, 15, 1, 1, 3, 0, 1, 0};
         };
     }
 
@@ -130,7 +131,7 @@ public final class RandomRunsTest {
             int batch = below(12);
             OneTrip x = new OneTrip(f, sets, ways, batch);
             PlainModel m = new PlainModel(f, sets, ways, batch);
-            int[] weights = weights(run % 5);
+            int[] weights = weights(run % 6);
             int keys = 1 + below(16);
             for (int call = 0; call < 512; call++) {
                 step(x, m, weights, keys);
