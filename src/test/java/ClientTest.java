@@ -63,7 +63,7 @@ public final class ClientTest {
             Check.same("most " + i, most.count(5 + i), mostDue[i]);
             Check.same("as given " + i, asGiven.count(5 + i), mostDue[i]);
         }
-        Check.outOfBounds("one backup only", () -> least.backup(1, 0));
+        Check.outOfBounds("one backup only", least, () -> least.backup(1, 0));
         Check.same("three witnesses", most.witness(2, 0), 0);
     }
 
@@ -93,20 +93,20 @@ public final class ClientTest {
         Check.same("nothing sent", x.count(0), 2);
         Check.same("nothing asked for", x.count(2), 1);
         Check.same("the number stays", x.client(0, 0), 1);
-        Check.badArgument("a wrong what also if busy", () -> x.ask(0, 3, 1, 5));
+        Check.badArgument("a wrong what also if busy", x, () -> x.ask(0, 3, 1, 5));
         Check.deliverAll(x);
         Check.same("not busy any more", x.ask(0, PUT, 2, 6), 2);
     }
 
     private static void askRefuses() {
         OneTrip x = new OneTrip(1, 1, 1, 10);
-        Check.outOfBounds("client -1", () -> x.ask(-1, PUT, 0, 0));
-        Check.outOfBounds("client 4", () -> x.ask(4, PUT, 0, 0));
-        Check.outOfBounds("key -1", () -> x.ask(0, PUT, -1, 0));
-        Check.outOfBounds("key 16", () -> x.ask(0, ADD, 16, 0));
-        Check.outOfBounds("key 16 of a get", () -> x.ask(0, GET, 16, 0));
-        Check.badArgument("what -1", () -> x.ask(0, -1, 0, 0));
-        Check.badArgument("what 3", () -> x.ask(0, 3, 0, 0));
+        Check.outOfBounds("client -1", x, () -> x.ask(-1, PUT, 0, 0));
+        Check.outOfBounds("client 4", x, () -> x.ask(4, PUT, 0, 0));
+        Check.outOfBounds("key -1", x, () -> x.ask(0, PUT, -1, 0));
+        Check.outOfBounds("key 16", x, () -> x.ask(0, ADD, 16, 0));
+        Check.outOfBounds("key 16 of a get", x, () -> x.ask(0, GET, 16, 0));
+        Check.badArgument("what -1", x, () -> x.ask(0, -1, 0, 0));
+        Check.badArgument("what 3", x, () -> x.ask(0, 3, 0, 0));
         Check.same("nothing asked for", x.count(2), 0);
         Check.same("nothing sent", x.count(0), 0);
     }
@@ -164,8 +164,8 @@ public final class ClientTest {
         Check.same("done", x.retry(0), false);
         Check.same("nothing sent", x.count(0), 0);
         Check.same("the accepts stay", x.client(0, 4), 1);
-        Check.outOfBounds("client -1", () -> x.retry(-1) ? 1 : 0);
-        Check.outOfBounds("client 4", () -> x.retry(4) ? 1 : 0);
+        Check.outOfBounds("client -1", x, () -> x.retry(-1) ? 1 : 0);
+        Check.outOfBounds("client 4", x, () -> x.retry(4) ? 1 : 0);
     }
 
     private static void learnTriesAgain() {
@@ -181,8 +181,8 @@ public final class ClientTest {
         Check.letters("asks the new one", x, 0, 1, 0, 1, 1, 1, 0, 1);
         Check.same("forgets the answer", x.client(0, 5), 0);
         Check.same("others do not learn", x.client(1, 3), 0);
-        Check.outOfBounds("client -1", () -> x.learn(-1));
-        Check.outOfBounds("client 4", () -> x.learn(4));
+        Check.outOfBounds("client -1", x, () -> x.learn(-1));
+        Check.outOfBounds("client 4", x, () -> x.learn(4));
     }
 
     private static void learnOfTheSameEpochSendsNothing() {
@@ -272,9 +272,9 @@ public final class ClientTest {
 
     private static void clientRefuses() {
         OneTrip x = new OneTrip(1, 1, 1, 1);
-        Check.outOfBounds("client -1", () -> x.client(-1, 0));
-        Check.outOfBounds("client 4", () -> x.client(4, 0));
-        Check.badArgument("what -1", () -> x.client(0, -1));
-        Check.badArgument("what 7", () -> x.client(0, 7));
+        Check.outOfBounds("client -1", x, () -> x.client(-1, 0));
+        Check.outOfBounds("client 4", x, () -> x.client(4, 0));
+        Check.badArgument("what -1", x, () -> x.client(0, -1));
+        Check.badArgument("what 7", x, () -> x.client(0, 7));
     }
 }

@@ -102,14 +102,14 @@ public final class LetterTest {
         OneTrip x = small();
         for (int n = 0; n < 2; n++) {
             int end = x.count(0);
-            Check.outOfBounds("deliver -1", () -> x.deliver(-1));
-            Check.outOfBounds("deliver behind", () -> x.deliver(end));
-            Check.outOfBounds("lose -1", () -> x.lose(-1));
-            Check.outOfBounds("lose behind", () -> x.lose(end));
-            Check.outOfBounds("twice -1", () -> x.twice(-1));
-            Check.outOfBounds("twice behind", () -> x.twice(end));
-            Check.outOfBounds("letter -1", () -> x.letter(-1, 0));
-            Check.outOfBounds("letter behind", () -> x.letter(end, 0));
+            Check.outOfBounds("deliver -1", x, () -> x.deliver(-1));
+            Check.outOfBounds("deliver behind", x, () -> x.deliver(end));
+            Check.outOfBounds("lose -1", x, () -> x.lose(-1));
+            Check.outOfBounds("lose behind", x, () -> x.lose(end));
+            Check.outOfBounds("twice -1", x, () -> x.twice(-1));
+            Check.outOfBounds("twice behind", x, () -> x.twice(end));
+            Check.outOfBounds("letter -1", x, () -> x.letter(-1, 0));
+            Check.outOfBounds("letter behind", x, () -> x.letter(end, 0));
             Check.same("nothing changed", x.count(0), end);
             x.ask(0, PUT, 0, 0);
         }
@@ -118,9 +118,9 @@ public final class LetterTest {
     private static void letterRefuses() {
         OneTrip x = small();
         x.ask(0, PUT, 0, 0);
-        Check.badArgument("what -1", () -> x.letter(0, -1));
-        Check.badArgument("what 4", () -> x.letter(0, 4));
-        Check.badArgument("what 4 of the last", () -> x.letter(1, 4));
+        Check.badArgument("what -1", x, () -> x.letter(0, -1));
+        Check.badArgument("what 4", x, () -> x.letter(0, 4));
+        Check.badArgument("what 4 of the last", x, () -> x.letter(1, 4));
     }
 
     private static void one(String what, OneTrip x, int k, int kind, int epoch, int who, int n) {

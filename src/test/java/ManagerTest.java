@@ -229,8 +229,8 @@ public final class ManagerTest {
         }
         Check.same("twelve", x.count(1), 12);
         int frozen = x.witness(0, 0);
-        Check.same("no thirteenth", Check.outcome(() -> x.decide(0, 0)), Check.UNSUPPORTED);
-        Check.outOfBounds("no such backup", () -> x.decide(2, 0));
+        Check.changesNothing("no thirteenth", x, Check.UNSUPPORTED, () -> x.decide(0, 0));
+        Check.outOfBounds("no such backup", x, () -> x.decide(2, 0));
         Check.same("still twelve", x.count(1), 12);
         Check.same("the witness stays", x.witness(0, 0), frozen);
         Check.same("all live", x.master(0, 0) + x.master(11, 0), 2);
@@ -263,18 +263,18 @@ public final class ManagerTest {
 
     private static void callsRefuse() {
         OneTrip x = new OneTrip(2, 1, 1, 1);
-        Check.outOfBounds("decide for backup -1", () -> x.decide(-1, 0));
-        Check.outOfBounds("decide for backup 2", () -> x.decide(2, 0));
-        Check.outOfBounds("decide for witness -1", () -> x.decide(0, -1));
-        Check.outOfBounds("decide for witness 2", () -> x.decide(0, 2));
-        Check.outOfBounds("backup -1", () -> x.backup(-1, 0));
-        Check.outOfBounds("backup 2", () -> x.backup(2, 0));
-        Check.outOfBounds("witness -1", () -> x.witness(-1, 0));
-        Check.outOfBounds("witness 2", () -> x.witness(2, 0));
-        Check.badArgument("backup's what -1", () -> x.backup(0, -1));
-        Check.badArgument("backup's what 2", () -> x.backup(0, 2));
-        Check.badArgument("witness's what -1", () -> x.witness(0, -1));
-        Check.badArgument("witness's what 4", () -> x.witness(0, 4));
+        Check.outOfBounds("decide for backup -1", x, () -> x.decide(-1, 0));
+        Check.outOfBounds("decide for backup 2", x, () -> x.decide(2, 0));
+        Check.outOfBounds("decide for witness -1", x, () -> x.decide(0, -1));
+        Check.outOfBounds("decide for witness 2", x, () -> x.decide(0, 2));
+        Check.outOfBounds("backup -1", x, () -> x.backup(-1, 0));
+        Check.outOfBounds("backup 2", x, () -> x.backup(2, 0));
+        Check.outOfBounds("witness -1", x, () -> x.witness(-1, 0));
+        Check.outOfBounds("witness 2", x, () -> x.witness(2, 0));
+        Check.badArgument("backup's what -1", x, () -> x.backup(0, -1));
+        Check.badArgument("backup's what 2", x, () -> x.backup(0, 2));
+        Check.badArgument("witness's what -1", x, () -> x.witness(0, -1));
+        Check.badArgument("witness's what 4", x, () -> x.witness(0, 4));
         Check.same("no epoch came", x.count(1), 1);
         witnessIs("not frozen", x, 0, 0, 0, 0, 0);
     }

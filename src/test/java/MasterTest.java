@@ -169,15 +169,15 @@ public final class MasterTest {
         OneTrip x = new OneTrip(1, 1, 1, 10);
         x.decide(0, 0);
         for (int epoch : new int[] {-1, 2, 11, 12}) {
-            Check.outOfBounds("sync " + epoch, () -> x.sync(epoch) ? 1 : 0);
-            Check.outOfBounds("crash " + epoch, () -> x.crash(epoch) ? 1 : 0);
-            Check.outOfBounds("master " + epoch, () -> x.master(epoch, 0));
-            Check.outOfBounds("value " + epoch, () -> x.value(epoch, 0));
+            Check.outOfBounds("sync " + epoch, x, () -> x.sync(epoch) ? 1 : 0);
+            Check.outOfBounds("crash " + epoch, x, () -> x.crash(epoch) ? 1 : 0);
+            Check.outOfBounds("master " + epoch, x, () -> x.master(epoch, 0));
+            Check.outOfBounds("value " + epoch, x, () -> x.value(epoch, 0));
         }
-        Check.outOfBounds("key -1", () -> x.value(0, -1));
-        Check.outOfBounds("key 16", () -> x.value(1, 16));
-        Check.badArgument("what -1", () -> x.master(0, -1));
-        Check.badArgument("what 5", () -> x.master(1, 5));
+        Check.outOfBounds("key -1", x, () -> x.value(0, -1));
+        Check.outOfBounds("key 16", x, () -> x.value(1, 16));
+        Check.badArgument("what -1", x, () -> x.master(0, -1));
+        Check.badArgument("what 5", x, () -> x.master(1, 5));
         Check.same("nothing sent", x.count(0), 0);
     }
 }

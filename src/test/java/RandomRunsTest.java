@@ -1,6 +1,3 @@
-import java.util.ArrayList;
-import java.util.List;
-
 /** Random runs of 512 calls: each answer, and all that the object shows, beside the model's. */
 public final class RandomRunsTest {
     private static long seed;
@@ -8,42 +5,6 @@ public final class RandomRunsTest {
     private static int below(int n) {
         seed = seed * 6364136223846793005L + 1442695040888963407L;
         return (int) Math.floorMod(seed >>> 33, (long) n);
-    }
-
-    private static List<Integer> shows(OneTrip x) {
-        List<Integer> all = new ArrayList<>();
-        for (int k = 0; k < x.count(0); k++) {
-            for (int what = 0; what < 4; what++) {
-                all.add(x.letter(k, what));
-            }
-        }
-        for (int c = 0; c < 4; c++) {
-            for (int what = 0; what < 7; what++) {
-                all.add(x.client(c, what));
-            }
-        }
-        for (int e = 0; e < x.count(1); e++) {
-            for (int what = 0; what < 5; what++) {
-                all.add(x.master(e, what));
-            }
-            for (int key = 0; key < 16; key++) {
-                all.add(x.value(e, key));
-            }
-        }
-        for (int b = 0; b < x.count(5); b++) {
-            all.add(x.backup(b, 0));
-            all.add(x.backup(b, 1));
-        }
-        for (int w = 0; w < x.count(5); w++) {
-            for (int what = 0; what < 4; what++) {
-                all.add(x.witness(w, what));
-            }
-        }
-        all.add(x.audit());
-        for (int what = 0; what < 9; what++) {
-            all.add(x.count(what));
-        }
-        return all;
     }
 
     /** Weights of a run: how often each call comes, so that runs differ in kind. */
@@ -73,10 +34,6 @@ public final class RandomRunsTest {
         return chosen;
     }
 
-    private static int asBit(boolean yes) {
-        return yes ? 1 : 0;
-    }
-
     private static void step(OneTrip x, PlainModel m, int[] weights, int keys) {
         int a = below(4);
         int what = below(3);
@@ -89,14 +46,14 @@ public final class RandomRunsTest {
         int w = below(x.count(5));
         switch (pick(weights)) {
             case 0 -> both("ask", () -> x.ask(a, what, key, v), () -> m.ask(a, what, key, v));
-            case 1 -> both("retry", () -> asBit(x.retry(a)), () -> asBit(m.retry(a)));
+            case 1 -> both("retry", () -> Check.asBit(x.retry(a)), () -> Check.asBit(m.retry(a)));
             case 2 -> both("learn", () -> x.learn(a), () -> m.learn(a));
             case 3 -> both("deliver", () -> x.deliver(0), () -> m.deliver(0));
             case 4 -> both("deliver", () -> x.deliver(k), () -> m.deliver(k));
             case 5 -> both("lose", () -> x.lose(k), () -> m.lose(k));
             case 6 -> both("twice", () -> x.twice(k), () -> m.twice(k));
-            case 7 -> both("sync", () -> asBit(x.sync(e)), () -> asBit(m.sync(e)));
-            case 8 -> both("crash", () -> asBit(x.crash(e)), () -> asBit(m.crash(e)));
+            case 7 -> both("sync", () -> Check.asBit(x.sync(e)), () -> Check.asBit(m.sync(e)));
+            case 8 -> both("crash", () -> Check.asBit(x.crash(e)), () -> Check.asBit(m.crash(e)));
             case 9 -> both("decide", () -> x.decide(b, w), () -> m.decide(b, w));
             default -> wrong(x, m, below(9), below(2) == 0 ? -1 : 250 + below(3));
         }
@@ -107,10 +64,10 @@ public final class RandomRunsTest {
             case 0 -> both("ask", () -> x.ask(bad, 0, 0, 0), () -> m.ask(bad, 0, 0, 0));
             case 1 -> both("ask", () -> x.ask(0, bad, 0, 0), () -> m.ask(0, bad, 0, 0));
             case 2 -> both("ask", () -> x.ask(0, 0, bad, 0), () -> m.ask(0, 0, bad, 0));
-            case 3 -> both("retry", () -> asBit(x.retry(bad)), () -> asBit(m.retry(bad)));
+            case 3 -> both("retry", () -> Check.asBit(x.retry(bad)), () -> Check.asBit(m.retry(bad)));
             case 4 -> both("learn", () -> x.learn(bad), () -> m.learn(bad));
             case 5 -> both("deliver", () -> x.deliver(bad), () -> m.deliver(bad));
-            case 6 -> both("sync", () -> asBit(x.sync(bad)), () -> asBit(m.sync(bad)));
+            case 6 -> both("sync", () -> Check.asBit(x.sync(bad)), () -> Check.asBit(m.sync(bad)));
             case 7 -> both("decide", () -> x.decide(bad, 0), () -> m.decide(bad, 0));
             default -> both("decide", () -> x.decide(0, bad), () -> m.decide(0, bad));
         }
@@ -135,7 +92,7 @@ public final class RandomRunsTest {
             int keys = 1 + below(16);
             for (int call = 0; call < 512; call++) {
                 step(x, m, weights, keys);
-                Check.same("run " + run + ", all behind call " + call, shows(x), m.shows());
+                Check.same("run " + run + ", all behind call " + call, Check.shows(x), m.shows());
             }
             for (int c = 0; c < 4; c++) {
                 seen[0] += x.client(c, 6);
