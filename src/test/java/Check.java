@@ -91,6 +91,7 @@ final class Check {
         try {
             return call.run();
         } catch (RuntimeException e) {
+            same("thrown by a throw statement: " + e, isThrownByCode(e), true);
             if (e.getClass() == IndexOutOfBoundsException.class) {
                 return INDEX;
             }
@@ -102,6 +103,16 @@ final class Check {
             }
             throw e;
         }
+    }
+
+    /** Neither by the Java machine nor by the library, whose exceptions begin elsewhere. */
+    private static boolean isThrownByCode(RuntimeException e) {
+        StackTraceElement[] trace = e.getStackTrace();
+        if (trace.length == 0) {
+            return false;
+        }
+        String thrower = trace[0].getClassName();
+        return thrower.startsWith("OneTrip") || thrower.startsWith("PlainModel");
     }
 
     static void outOfBounds(String what, OneTrip trip, Call call) {

@@ -45,12 +45,15 @@ public final class EdgesOfLettersTest {
         ackOfOneBackupConfirmsForItAlone();
         ackAnswersTheLateAndTheAskedFor();
         ackAnswersOnlyWhatIsSyncedNow();
+        ackAnswersNothingBehindTheSyncedOnes();
         ackSettlesWhenAllHaveTold();
         ackSettlesAtWhatTheEpochBeganWith();
+        ackSettlesNotBelowWhatTheEpochBeganWith();
         ackSettlesEpoch0Silently();
         ackSendsGcWhenSyncedIsGreater();
         ackAnswersGetsInTheirOrder();
         ackAnswersGetsByTheirPlace();
+        ackAnswersNoGetWithAPlaceAboveSynced();
         ackAnswersAGetOnce();
         ackTellsInTheOrderOfTheDocument();
         Check.close("EdgesOfLettersTest");
@@ -714,6 +717,26 @@ public final class EdgesOfLettersTest {
         Check.letters("the LATE ones of before are not told again", x, GC, 0, 0, 5);
     }
 
+    // "for each UPDATE that is SYNCED now": the first one behind them is LATE too
+    private static void ackAnswersNothingBehindTheSyncedOnes() {
+        OneTrip x = roomy(1);
+        for (int c = 0; c < 4; c++) {
+            x.ask(c, ADD, 1, 5);
+            Check.deliver(x, EXEC, c);
+        }
+        Check.keepOnly(x, SYNC);
+        Check.letters("one of each LATE one", x, SYNC, 0, 0, 2, SYNC, 0, 0, 3, SYNC, 0, 0, 4);
+        int[] told = {0, 10, 15, 20};
+        for (int c = 1; c < 4; c++) {
+            Check.syncAndAck(x, 0);
+            Check.lettersFrom(3 - c, "the last of the SYNCED ones alone", x,
+                    ANSWER, 0, c, 1, GC, 0, 0, c + 1);
+            Check.deliver(x, ANSWER, c);
+            Check.lose(x, GC, 0);
+            Check.client("SAFE", x, c, 1, 1, told[c], 0, 0, 0, 0);
+        }
+    }
+
     // "If of all BACKUPS something is known ... for the first time, the EPOCH is SETTLED: RESET to
     // each WITNESS"
     private static void ackSettlesWhenAllHaveTold() {
@@ -775,6 +798,30 @@ public final class EdgesOfLettersTest {
         Check.syncAndAck(x, 1);
         Check.same("SYNCED is greater", x.master(1, 2), 4);
         Check.letters("GC, no RESET", x, GC, 1, 0, 4, GC, 1, 1, 4);
+    }
+
+    // "and SYNCED is not below what the LOG had when the EPOCH began": no run of calls comes below
+    // it, so what it began with is made greater from inside
+    private static void ackSettlesNotBelowWhatTheEpochBeganWith() {
+        OneTrip x = roomy(1);
+        x.decide(0, 0);
+        x.learn(0);
+        Inside.set(Inside.master(x, 1), "began", 2);
+        for (int i = 1; i <= 3; i++) {
+            x.ask(0, PUT, i, 5);
+            Check.deliver(x, EXEC, 0);
+            Check.loseAll(x);
+            x.sync(1);
+            Check.same("sync()", Check.many(x, RESET), i == 3 ? 1 : 0);
+            Check.loseEach(x, RESET);
+            Check.syncAndAck(x, 0);
+            Check.same("SYNCED " + i + " of 2", Check.many(x, RESET), i == 2 ? 1 : 0);
+            Check.same("GC", Check.many(x, GC), 1);
+            x.retry(0);
+            Check.deliver(x, EXEC, 0);
+            Check.deliver(x, ANSWER, 0);
+            Check.loseAll(x);
+        }
     }
 
     // "(not of EPOCH 0)"
@@ -858,6 +905,23 @@ public final class EdgesOfLettersTest {
         Check.client("ahead of all", x, 0, 1, 1, 0, 0, 0, 0, 0);
         Check.client("behind the PUT, ahead of the ADD", x, 2, 1, 1, 5, 0, 0, 0, 0);
         Check.same("audit", x.audit(), 0);
+    }
+
+    // "whose PLACE is not above SYNCED": no run of calls has it above when all have CONFIRMED, so
+    // it is made greater from inside
+    private static void ackAnswersNoGetWithAPlaceAboveSynced() {
+        OneTrip x = roomy(1);
+        x.ask(0, GET, 1, 0);
+        Check.deliver(x, EXEC, 0);
+        Inside.set(Inside.waitingGet(x, 0, 0), "place", 1);
+        Check.syncAndAck(x, 0);
+        Check.same("CONFIRMED, but its PLACE is above SYNCED", x.master(0, 3), 1);
+        x.ask(1, PUT, 1, 5);
+        Check.deliver(x, EXEC, 1);
+        Check.loseAll(x);
+        x.sync(0);
+        Check.syncAndAck(x, 0);
+        Check.letters("not above", x, GC, 0, 0, 1, ANSWER, 0, 0, 1);
     }
 
     // "it waits no more"

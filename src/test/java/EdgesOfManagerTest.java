@@ -23,6 +23,7 @@ public final class EdgesOfManagerTest {
         recordsComeByClients();
         recordsOfOneClientComeByNumbers();
         recordsBehindALesserNumberOfTheLog();
+        recordsAheadOfAGreaterNumberOfTheLog();
         eachRecordIsDoneAndHasItsAnswer();
         noneOfTheLogIsLate();
         theBackupsLogStays();
@@ -237,6 +238,34 @@ public final class EdgesOfManagerTest {
         x.decide(0, 0);
         Check.master("number 3 of client 0, number 1 of client 1", x, 1, 1, 4, 0, 0, 4);
         Check.same("done", x.value(1, 2) + x.value(1, 3), 2);
+    }
+
+    // "(one with a number less than another one's of that CLIENT in the LOG is left out)": no run
+    // of calls comes there, so number 2 is taken out of the LOG from inside
+    private static void recordsAheadOfAGreaterNumberOfTheLog() {
+        OneTrip x = roomy(1);
+        for (int key = 0; key < 4; key++) {
+            Check.told(x, 0, ADD, key, 1);
+        }
+        Check.told(x, 1, ADD, 5, 1);
+        x.sync(0);
+        Check.deliver(x, SYNC, 0);
+        record(x, 0, ADD, 4, 1, 0);
+        Inside.log(x, 0).remove(1);
+        x.decide(0, 0);
+        Check.master("number 5 rises, number 2 does not", x, 1, 1, 5, 0, 0, 5);
+        Check.same("left out", x.value(1, 1), 0);
+        Check.same("done", x.value(1, 4), 1);
+        OneTrip y = roomy(1);
+        Check.told(y, 0, ADD, 0, 1);
+        Check.told(y, 1, ADD, 1, 1);
+        Check.told(y, 1, ADD, 2, 1);
+        y.sync(0);
+        Check.deliver(y, SYNC, 0);
+        Inside.log(y, 0).remove(0);
+        y.decide(0, 0);
+        Check.master("a greater number of another CLIENT", y, 1, 1, 3, 0, 0, 3);
+        Check.same("does not leave it out", y.value(1, 0), 1);
     }
 
     // "each is done, and has the answer that comes of that"

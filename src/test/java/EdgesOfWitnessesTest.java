@@ -30,9 +30,11 @@ public final class EdgesOfWitnessesTest {
         gcOfAnotherEpoch();
         gcAtAFrozenWitness();
         gcDropsTheFirstSoManyOnly();
+        gcAtAFullWitness();
         gcIsOfWhatWasSyncedWhenItWasSent();
         resetOfAGreaterEpoch();
         resetOfItsOwnEpochWhenFrozen();
+        resetOfAFullWitness();
         resetOfItsOwnEpochWhenNotFrozen();
         resetOfALesserEpoch();
         repliesOfAnotherEpoch();
@@ -259,6 +261,18 @@ public final class EdgesOfWitnessesTest {
         Check.witness("all three", x, 0, 0, 0, 0, 0);
     }
 
+    // "it holds none any more": of each place
+    private static void gcAtAFullWitness() {
+        for (int sets = 1; sets <= 4; sets++) {
+            for (int ways = 1; ways <= 4; ways++) {
+                OneTrip x = full(sets, ways);
+                x.sync(0);
+                Check.deliverAll(x);
+                Check.witness("none of them", x, 0, 0, 0, 0, 0);
+            }
+        }
+    }
+
     // "GC (with EPOCH and SYNCED as they are when it is sent)"
     private static void gcIsOfWhatWasSyncedWhenItWasSent() {
         OneTrip x = roomy(1);
@@ -313,6 +327,43 @@ public final class EdgesOfWitnessesTest {
         Check.witness("FROZEN with its RECORD", x, 0, 1, 1, 1, 2);
         Check.deliver(x, RESET, 0);
         Check.witness("no RECORDS, not FROZEN", x, 0, 1, 0, 0, 0);
+    }
+
+    private static OneTrip full(int sets, int ways) {
+        OneTrip x = new OneTrip(1, sets, ways, 10);
+        takeEachPlace(x, 0, sets * ways);
+        return x;
+    }
+
+    /** By updates that are done and not SYNCED. */
+    private static void takeEachPlace(OneTrip x, int epoch, int places) {
+        for (int key = 0; key < places; key++) {
+            x.ask(0, PUT, key, 1);
+            Check.deliver(x, EXEC, 0);
+            Check.loseEach(x, SYNC);
+            Check.deliverAll(x);
+            Check.same("done by ACCEPTS", x.client(0, 4), 1);
+        }
+        Check.witness("full", x, 0, epoch, 0, places, (1 << places) - 1);
+    }
+
+    // "no RECORDS": of each place, which is free again
+    private static void resetOfAFullWitness() {
+        for (int sets = 1; sets <= 4; sets++) {
+            for (int ways = 1; ways <= 4; ways++) {
+                OneTrip x = full(sets, ways);
+                x.decide(0, 0);
+                x.sync(1);
+                Check.syncAndAck(x, 0);
+                Check.loseEach(x, GC);
+                Check.witness("FROZEN with all", x, 0, 1, 1, sets * ways,
+                        (1 << sets * ways) - 1);
+                Check.deliver(x, RESET, 0);
+                Check.witness("none of them", x, 0, 1, 0, 0, 0);
+                x.learn(0);
+                takeEachPlace(x, 1, sets * ways);
+            }
+        }
     }
 
     // else nothing: of this one and not FROZEN
