@@ -643,7 +643,7 @@ public final class OneTrip {
             this.id = id;
             this.sets = sets;
             this.ways = ways;
-            places = new Operation[sets * ways];
+            places = new Operation[Math.max(0, sets * ways)];
         }
 
         /** Whether it accepts. */
@@ -780,7 +780,7 @@ public final class OneTrip {
             log = new ArrayList<>();
             gets = new ArrayList<>();
             values = new int[KEYS];
-            told = new int[faults];
+            told = new int[Math.max(0, faults)];
             Arrays.fill(told, NONE);
             lives = true;
         }
